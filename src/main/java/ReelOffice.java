@@ -448,10 +448,12 @@ public final class ReelOffice {
         }
 
         void copyFrom(Store other) {
-            System.arraycopy(other.held, 0, held, 0, MOST_MEMORY);
-            System.arraycopy(other.waits, 0, waits, 0, MOST_MEMORY);
             size = other.size;
             upcoming = other.upcoming;
+            for (int slot = 0; slot < size; slot++) {
+                held[slot] = other.held[slot];
+                waits[slot] = other.waits[slot];
+            }
         }
 
         boolean holds(int card) {
@@ -608,7 +610,6 @@ public final class ReelOffice {
         private final int[] numbers = new int[SOURCES];
         private int steps = 0;
         private int place = 0;
-        private boolean firstRun = true;
 
         void begin(Tape[] tapes) {
             for (int tape = 0; tape < SOURCES; tape++) {
@@ -617,7 +618,6 @@ public final class ReelOffice {
             }
             steps = 1;
             place = 0;
-            firstRun = true;
         }
 
         int height() {
@@ -628,25 +628,18 @@ public final class ReelOffice {
             steps--;
         }
 
+        /** Before the first run, too: with as many dummies on each tape, place 0 is found again. */
         int placeOfNextRun(Tape[] tapes) {
-            if (firstRun) {
-                firstRun = false;
-            } else {
-                findPlace(tapes);
-            }
-            return place;
-        }
-
-        private void findPlace(Tape[] tapes) {
             int here = tapes[place].dummyCount();
             if (place + 1 < SOURCES && here < tapes[place + 1].dummyCount()) {
                 place++;
-                return;
+                return place;
             }
             if (here == 0) {
                 goUp(tapes);
             }
             place = 0;
+            return place;
         }
 
         private void goUp(Tape[] tapes) {

@@ -10,6 +10,7 @@ public final class InputTest {
         start();
         startWithoutCards();
         clear();
+        sortingAfterClear();
         clearWithoutPower();
         compareByEachWay();
         compareBySeveralParts();
@@ -143,7 +144,7 @@ public final class InputTest {
         check.due("level", office.level(), 0);
         check.due("sorted(0)", office.sorted(0), -1);
         check.due("step(300)", office.step(300), 0);
-        check.due("role(1)", office.role(1), 1);
+        check.due("sight", Offices.sight(office), "3 level 0; 0(1); 1(1); 2(1); 3(0); memory");
         check.due("written", office.written(), 0);
         check.state("start again", () -> begin(office));
     }
@@ -173,7 +174,24 @@ public final class InputTest {
         office.card(3, 0);
         office.start();
         check.due("memory is as large as before", office.memory(2) && !office.memory(3), true);
+        check.due("no fault is left", office.step(300), 2);
+    }
+
+    private static void sortingAfterClear() {
+        ReelOffice office = Offices.withSingleRuns(5);
+        office.step(5);
+        check.due("cutAfter(1)", office.cutAfter(1), true);
+        check.due("clear", office.clear(), 5);
+        office.card(2, 0);
+        office.card(1, 0);
+        check.due("level before start", office.level(), 0);
+        check.due("part", office.part(0, 0), 1);
+        office.start();
+        check.due("sight", Offices.sight(office), "1 level 1; 0(1); 1(1); 2(1); 3(0); memory 0");
+        office.step(1);
+        check.due("the first run goes to tape 0", Offices.tape(office, 0), "(0)[0]");
         check.due("no cut is left", office.step(300), 2);
+        check.due("order", Offices.order(office), "1 0");
     }
 
     private static void clearWithoutPower() {
