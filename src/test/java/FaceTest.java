@@ -96,7 +96,8 @@ public final class FaceTest {
         for (Class<?> inside : ReelOffice.class.getDeclaredClasses()) {
             int modifiers = inside.getModifiers();
             check.due("static " + inside.getName(), Modifier.isStatic(modifiers), true);
-            check.due("open " + inside.getName(), Modifier.isPublic(modifiers) || Modifier.isProtected(modifiers), false);
+            boolean open = Modifier.isPublic(modifiers) || Modifier.isProtected(modifiers);
+            check.due("open " + inside.getName(), open, false);
         }
     }
 }

@@ -1,4 +1,5 @@
 import java.util.Random;
+import java.util.function.Supplier;
 
 /** Holds ReelOffice against PlainOffice over many runs of calls from a fixed seed. */
 public final class ModelTest {
@@ -97,7 +98,7 @@ public final class ModelTest {
 
     private void look() {
         int tape = edgeOr(random.nextInt(4));
-        int r = edgeOr(random.nextInt(4));
+        int r = edgeOr(random.nextInt(random.nextInt(5) == 0 ? 70 : 4));
         int i = edgeOr(random.nextInt(random.nextInt(2) == 0 ? 5 : 152));
         int j = edgeOr(random.nextInt(152));
         switch (random.nextInt(13)) {
@@ -120,7 +121,7 @@ public final class ModelTest {
         }
     }
 
-    private void same(String what, Check.Call got, Check.Call want) {
+    private void same(String what, Supplier<Object> got, Supplier<Object> want) {
         check.due(what, Check.answer(got), Check.answer(want));
     }
 }
